@@ -1,84 +1,7 @@
 /** A part for each promise of the document, with answers that were worked out by hand. */
-public final class PromisesTest {
-    private static int wrong = 0;
-    private static String part = "";
-    private static EdgeNotes x = new EdgeNotes();
-
-    public static void main(String[] args) {
-        newObject();
-        statusOfCalls();
-        pageNumbers();
-        linesComeAndChange();
-        notesCome();
-        answersHang();
-        cutsAndCutting();
-        binding();
-        fixingAndLoosing();
-        movingNotes();
-        showingAndKeeping();
-        tellingBack();
-        pagesOfLines();
-        breaksOfHeldPages();
-        breaksOfNotes();
-        sidesOfEither();
-        placesNearLines();
-        tiesOfCuts();
-        carriedRests();
-        carriedToABarePage();
-        restsThatCantBe();
-        columnsOfBrackets();
-        bracketsOverPages();
-        costsOfPages();
-        runsOfSides();
-        movedNotes();
-        wildNumbers();
-        System.out.println(wrong == 0 ? "all promises are kept" : wrong + " answers are not as due");
-        if (wrong != 0) System.exit(1);
-    }
-
-    private static void begin(String name) {
-        part = name;
-        x = new EdgeNotes();
-    }
-
-    private static void due(String what, int got, int want) {
-        if (got != want) {
-            wrong++;
-            System.out.println(part + ": " + what + " answered " + got + ", due is " + want);
-        }
-    }
-
-    /** The answer of a call that is done, so STATUS is 0. */
-    private static void is(String what, int got, int want) {
-        int status = x.status();
-        due(what, got, want);
-        due("status() behind " + what, status, 0);
-    }
-
-    private static void done(String what, boolean got) {
-        is(what, got ? 1 : 0, 1);
-    }
-
-    private static void not(String what, int got, int why) {
-        int status = x.status();
-        due(what, got, EdgeNotes.NONE);
-        due("status() behind " + what, status, why);
-    }
-
-    private static void not(String what, boolean got, int why) {
-        int status = x.status();
-        due(what, got ? 1 : 0, 0);
-        due("status() behind " + what, status, why);
-    }
-
-    private static void lines(int... heights) {
-        for (int height : heights) x.line(height);
-    }
-
-    private static void stands(int note, int side, int place, int rest) {
-        is("side(" + note + ")", x.side(note), side);
-        is("place(" + note + ")", x.place(note), place);
-        is("rest(" + note + ")", x.rest(note), rest);
+public final class PromisesTest extends Checks {
+    public static void main(String[] args) throws IllegalAccessException {
+        runAll(PromisesTest.class);
     }
 
     private static void newObject() {
@@ -152,7 +75,7 @@ public final class PromisesTest {
         for (int i = 1; i < 60; i++) is("line(1)", x.line(1), i);
         not("line(1), one too many", x.line(1), 3);
         not("line(0), 2 is ahead of 3", x.line(0), 2);
-        is("top(59)", x.top(50), 99);
+        is("top(50)", x.top(50), 99);
         is("top(51)", x.top(51), 0);
         begin("promise 5");
         not("change(0, 1)", x.change(0, 1), 1);
