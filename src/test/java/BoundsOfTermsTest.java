@@ -362,6 +362,18 @@ public final class BoundsOfTermsTest extends Checks {
         is("cost(0)", x.cost(0), 50);
     }
 
+    /** The least CUT is 1, the greatest HEIGHT - 1 (promises 8, 21, 22) */
+    private static void theLeastAndTheGreatestCut() {
+        x.page(20, 0);
+        lines(19, 1);
+        x.note(1, 21, 20, 0, 0);
+        x.cut(0, 1);
+        stands(0, 0, 19, 20);
+        x.note(0, 21, 20, 1, 0);
+        x.cut(1, 20);
+        stands(1, 1, 0, 1);
+    }
+
     /** A CUT above HEIGHT has no room (promises 8, 17) */
     private static void aCutAboveHeightHasNoRoom() {
         x.page(20, 0);
@@ -518,6 +530,21 @@ public final class BoundsOfTermsTest extends Checks {
         is("cost(0)", x.cost(0), 10);
     }
 
+    /** A side that the first NOTE must take leaves both to one of the next LINE (promises 18, 20) */
+    private static void sidesOfNotesOfTwoLines() {
+        x.page(20, 0);
+        lines(5, 5);
+        plain(0, 10, 0);
+        plain(0, 15, 2);
+        plain(1, 10, 2);
+        pagesOf(0, 0);
+        stands(1, 1, 0, 0);
+        stands(2, 0, 10, 0);
+        x.answer(2, 1);
+        pagesOf(0, 1);
+        stands(2, 0, 0, 0);
+    }
+
     /** The least COST is ahead of the sides (promise 20) */
     private static void costIsAheadOfSides() {
         x.page(100, 0);
@@ -561,6 +588,43 @@ public final class BoundsOfTermsTest extends Checks {
             x.cutting(0);
             x.move(0, 0);
             stands(0, side, 0, 0);
+        }
+    }
+
+    /** The same where other NOTES cost too, so that the COST is above CUTTING (promise 22) */
+    private static void noCutIsAheadAboveCutting() {
+        for (int side = 0; side < 2; side++) {
+            begin("no CUT is ahead, though others cost, side " + side);
+            x.page(20, 0);
+            x.cutting(10);
+            lines(5, 5, 10);
+            plain(0, 3, side);
+            plain(0, 3, side);
+            plain(2, 14, side);
+            x.cut(2, 5);
+            stands(2, side, 6, 0);
+            is("cost(0): 3 and 4", x.cost(0), 7);
+            x.cutting(4);
+            stands(2, side, 6, 0);
+            x.cutting(3);
+            stands(2, side, 10, 9);
+            is("cost(0): 3 and a CUT", x.cost(0), 6);
+        }
+    }
+
+    /** "then the greatest ahead" where other NOTES cost too (promise 22) */
+    private static void theGreatestCutIsAheadAboveCutting() {
+        int[][] told = {{3, 9, 7}, {9, 7, 3}, {7, 3, 9}};
+        for (int side = 0; side < 2; side++) for (int[] cuts : told) {
+            begin("the greatest CUT is ahead, though others cost, side " + side);
+            x.page(20, 0);
+            lines(5, 5, 10);
+            plain(0, 3, side);
+            plain(0, 3, side);
+            plain(2, 21, side);
+            for (int at : cuts) x.cut(2, at);
+            stands(2, side, 10, 12);
+            is("cost(0)", x.cost(0), 53);
         }
     }
 
@@ -629,6 +693,22 @@ public final class BoundsOfTermsTest extends Checks {
         x.note(3, 10, 9, 0, 0);
         places(0, 0, 10, 20, 30);
         is("cost(0): 20, 5 times 15, 10", x.cost(0), 20 + 75 + 10);
+    }
+
+    /** All 24 NOTES on one side, each at its LINE, then all pushed by the first one (promises 6, 18, 21) */
+    private static void twentyFourNotesOfOneSide() {
+        x.page(61, 0);
+        for (int i = 0; i < 60; i++) x.line(1);
+        for (int i = 0; i < 24; i++) plain(2 * i, 2, 1);
+        x.answer(23, 12);
+        is("cost(0)", x.cost(0), 0);
+        for (int i = 0; i < 24; i++) is("place(" + i + ")", x.place(i), 2 * i);
+        x.answer(0, 1);
+        is("cost(0): all but the first are one lower", x.cost(0), 23);
+        for (int i = 1; i < 24; i++) is("place(" + i + ")", x.place(i), 2 * i + 1);
+        x.answer(0, 1);
+        is("the last one's LINE goes on", x.pageOf(46), 1);
+        is("cost(0)", x.cost(0), 44);
     }
 
     // ---- HELD

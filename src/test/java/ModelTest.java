@@ -4,6 +4,7 @@ import java.util.Random;
 
 /** Random runs of calls: every answer and every STATUS is the one that the plain model has. */
 public final class ModelTest {
+    private static final int MOST_CALLS = 512;
     private static int wrong = 0;
     private static final int[] SEEN = new int[9];
     private static int cutSeen = 0, bareSeen = 0, bothCarried = 0, deepColumns = 0;
@@ -13,6 +14,7 @@ public final class ModelTest {
     private final EdgeNotes x = new EdgeNotes();
     private final PlainModel m;
     private final Deque<String> told = new ArrayDeque<>();
+    private int calls;
     private boolean failed;
 
     private ModelTest(long seed, boolean grid) {
@@ -22,8 +24,8 @@ public final class ModelTest {
     }
 
     public static void main(String[] args) {
-        int small = args.length > 0 ? Integer.parseInt(args[0]) : 1500;
-        int large = args.length > 1 ? Integer.parseInt(args[1]) : 150;
+        int small = args.length > 0 ? Integer.parseInt(args[0]) : 6000;
+        int large = args.length > 1 ? Integer.parseInt(args[1]) : 1200;
         for (int i = 0; i < small; i++) new ModelTest(i, false).run();
         for (int i = 0; i < large; i++) new ModelTest(1_000_000 + i, true).run();
         for (int s = 0; s < SEEN.length; s++) need(SEEN[s] > 0, "no call had STATUS " + s);
@@ -46,12 +48,18 @@ public final class ModelTest {
         checkFlag("page(" + size + ", " + gap + ")", x.page(size, gap), m.page(size, gap));
         int lines = 1 + random.nextInt(grid ? 60 : 5);
         for (int i = 0; i < lines; i++) addLine();
-        int steps = grid ? 60 : 30;
-        for (int i = 0; i < steps && !failed; i++) {
+        while (mayCall() && calls < MOST_CALLS - 120) {
             mutate();
-            if (grid ? random.nextInt(3) == 0 : random.nextInt(2) == 0) sweep();
+            for (int i = 0; i < 3 && m.breaks() == null && random.nextInt(8) != 0; i++) mend();
+            if (random.nextInt(3) == 0) for (int i = random.nextInt(8); i >= 0 && mayCall(); i--) ask();
         }
-        if (!failed) sweep();
+        look();
+        while (mayCall()) ask();
+    }
+
+    /** Behind its last call a book answers as it likes; a check is a call and its status(). */
+    private boolean mayCall() {
+        return !failed && calls + 2 <= MOST_CALLS;
     }
 
     private void addLine() {
@@ -134,37 +142,78 @@ public final class ModelTest {
                 if (!grid && h > 24 && h <= 100) h = 24;
                 int w = number(1, random.nextBoolean() ? 20 : 3), s = number(0, 2), y = number(0, 3);
                 check("note(" + l + ", " + h + ", " + w + ", " + s + ", " + y + ")", x.note(l, h, w, s, y), m.note(l, h, w, s, y));
+                int made = m.notes.size() - 1;
+                for (int i = random.nextInt(3); i > 0 && made >= 0; i--) {
+                    int at = number(1, m.notes.get(made).height - 1);
+                    check("cut(" + made + ", " + at + ")", x.cut(made, at), m.cut(made, at));
+                }
             }
         }
     }
 
-    private void sweep() {
-        check("pages()", x.pages(), m.pages());
-        int pages = m.breaks() == null ? 1 : m.breaks().size();
-        for (int l = -1; l <= m.lines.size(); l++) {
-            check("pageOf(" + l + ")", x.pageOf(l), m.pageOf(l));
-            check("top(" + l + ")", x.top(l), m.top(l));
-        }
-        for (int k = -1; k <= m.notes.size(); k++) {
-            check("side(" + k + ")", x.side(k), m.stands(k, 0));
-            check("place(" + k + ")", x.place(k), m.stands(k, 1));
-            check("rest(" + k + ")", x.rest(k), m.stands(k, 2));
-            for (int what = -1; what <= 10; what++) check("told(" + k + ", " + what + ")", x.told(k, what), m.told(k, what));
-            for (int p = -1; p <= pages; p++) {
-                int[] due = m.bracket(k, p, 0);
-                if (due[0] >= 2) deepColumns++;
-                check("column(" + k + ", " + p + ")", x.column(k, p), due);
-                check("bracket(" + k + ", " + p + ", false)", x.bracket(k, p, false), m.bracket(k, p, 1));
-                check("bracket(" + k + ", " + p + ", true)", x.bracket(k, p, true), m.bracket(k, p, 2));
+    /** Most questions have little to say without BREAKS, so something that stood in their way is taken back. */
+    private void mend() {
+        int k = m.notes.isEmpty() ? 0 : random.nextInt(m.notes.size());
+        switch (random.nextInt(4)) {
+            case 0: checkFlag("loose(" + k + ")", x.loose(k), m.loose(k)); break;
+            case 1: {
+                int h = grid ? 400 : 20, g = random.nextInt(2);
+                checkFlag("page(" + h + ", " + g + ")", x.page(h, g), m.page(h, g));
+                break;
             }
+            case 2: {
+                int s = random.nextInt(16);
+                checkFlag("show(" + s + ")", x.show(s), m.show(s));
+                checkFlag("keep(false)", x.keep(false), m.keep(false));
+                break;
+            }
+            default: {
+                int l = m.lines.isEmpty() ? 0 : random.nextInt(m.lines.size());
+                checkFlag("move(" + k + ", " + l + ")", x.move(k, l), m.move(k, l));
+            }
+        }
+    }
+
+    private void ask() {
+        int k = anyNote(), l = anyLine();
+        int p = number(0, m.breaks() == null ? 0 : m.breaks().size() - 1);
+        switch (random.nextInt(13)) {
+            case 0: check("pages()", x.pages(), m.pages()); break;
+            case 1: check("pageOf(" + l + ")", x.pageOf(l), m.pageOf(l)); break;
+            case 2: check("top(" + l + ")", x.top(l), m.top(l)); break;
+            case 3: check("side(" + k + ")", x.side(k), m.stands(k, 0)); break;
+            case 4: case 5: check("place(" + k + ")", x.place(k), m.stands(k, 1)); break;
+            case 6: check("rest(" + k + ")", x.rest(k), m.stands(k, 2)); break;
+            case 7: {
+                int what = number(0, 9);
+                check("told(" + k + ", " + what + ")", x.told(k, what), m.told(k, what));
+                break;
+            }
+            case 8: check("column(" + k + ", " + p + ")", x.column(k, p), m.bracket(k, p, 0)); break;
+            case 9: {
+                boolean end = random.nextBoolean();
+                check("bracket(" + k + ", " + p + ", " + end + ")", x.bracket(k, p, end), m.bracket(k, p, end ? 2 : 1));
+                break;
+            }
+            case 10: check("cost(" + p + ")", x.cost(p), m.cost(p)); break;
+            case 11: {
+                int s = number(0, 1);
+                check("runs(" + p + ", " + s + ")", x.runs(p, s), m.runs(p, s));
+                break;
+            }
+            default: check("moved(" + p + ")", x.moved(p), m.moved(p));
+        }
+    }
+
+    /** Counts what the model has, to see that the runs are not too tame. */
+    private void look() {
+        if (m.breaks() == null) return;
+        int pages = m.breaks().size();
+        for (int k = 0; k < m.notes.size(); k++) {
             if (m.stands(k, 2)[0] > 0) cutSeen++;
+            for (int p = 0; p < pages; p++) if (m.bracket(k, p, 0)[0] >= 2) deepColumns++;
         }
-        for (int p = -1; p <= pages; p++) {
-            check("cost(" + p + ")", x.cost(p), m.cost(p));
-            for (int s = -1; s <= 2; s++) check("runs(" + p + ", " + s + ")", x.runs(p, s), m.runs(p, s));
-            check("moved(" + p + ")", x.moved(p), m.moved(p));
-        }
-        if (m.breaks() != null) for (PlainModel.Page p : m.breaks()) {
+        for (PlainModel.Page p : m.breaks()) {
             if (p.first == p.end) bareSeen++;
             if (p.carried[0] > 0 && p.carried[1] > 0) bothCarried++;
         }
@@ -177,6 +226,7 @@ public final class ModelTest {
     private void check(String call, int got, int[] due) {
         told.add(call);
         int status = x.status();
+        calls += 2;
         SEEN[due[1]]++;
         if (got == due[0] && status == due[1]) return;
         wrong++;
