@@ -366,9 +366,10 @@ public final class BoundsOfTermsTest extends Checks {
     private static void theLeastAndTheGreatestCut() {
         x.page(20, 0);
         lines(19, 1);
-        x.note(1, 21, 20, 0, 0);
+        x.note(1, 20, 20, 0, 0);
+        stands(0, 0, 0, 0);
         x.cut(0, 1);
-        stands(0, 0, 19, 20);
+        stands(0, 0, 19, 19);
         x.note(0, 21, 20, 1, 0);
         x.cut(1, 20);
         stands(1, 1, 0, 1);
@@ -709,6 +710,22 @@ public final class BoundsOfTermsTest extends Checks {
         x.answer(0, 1);
         is("the last one's LINE goes on", x.pageOf(46), 1);
         is("cost(0)", x.cost(0), 44);
+    }
+
+    /** All 24 NOTES on one side, apart from one another, then some pushed by the first one (promises 21, 26, 27) */
+    private static void twentyFourNotesApart() {
+        x.page(60, 0);
+        for (int i = 0; i < 60; i++) x.line(1);
+        for (int i = 0; i < 24; i++) plain(2 * i, 1, 0);
+        is("cost(0)", x.cost(0), 0);
+        is("runs(0, 0)", x.runs(0, 0), 24);
+        is("moved(0)", x.moved(0), 0);
+        for (int i = 0; i < 24; i++) is("place(" + i + ")", x.place(i), 2 * i);
+        x.answer(0, 10);
+        for (int i = 1; i < 24; i++) is("place(" + i + ")", x.place(i), Math.max(10 + i, 2 * i));
+        is("cost(0)", x.cost(0), 45);
+        is("moved(0)", x.moved(0), 9);
+        is("runs(0, 0)", x.runs(0, 0), 14);
     }
 
     // ---- HELD
