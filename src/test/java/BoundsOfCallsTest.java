@@ -1079,6 +1079,22 @@ public final class BoundsOfCallsTest extends Checks {
         not("6 is ahead of 1", x.runs(9, 1), 6);
     }
 
+    private static void promise26SetNotesThatAreNotShown() {
+        x.page(100, 0);
+        lines(5, 5, 10);
+        x.note(0, 5, 1, 0, 0);
+        x.note(1, 5, 1, 0, 1);
+        x.note(2, 5, 1, 0, 0);
+        x.note(2, 5, 1, 1, 1);
+        is("one RUN of three NOTES", x.runs(0, 0), 1);
+        x.show(1);
+        is("a hidden one is not there", x.runs(0, 0), 2);
+        is("the other side is bare", x.runs(0, 1), 0);
+        x.keep(true);
+        is("with KEEP it is SET", x.runs(0, 0), 1);
+        is("and so is the one on the right", x.runs(0, 1), 1);
+    }
+
     private static void promise27NoSuchPage() {
         not("without LINES there is none", x.moved(0), 1);
         lines(10);
